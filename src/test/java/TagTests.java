@@ -103,6 +103,9 @@ final class TagTests {
         rounds("=>b?a;=>a?b", A, 100);
         rounds("=>a?a", A, 100);
         rounds("=>a?~a", A, 130);
+        rounds("=>a;=>a;=>~a;=>~a;0>2;2>1;1>3;3>0", A, 120);
+        rounds("=>a;=>a;=>~a;=>~a;0>2;2>1;1>3;3>0", A + OTHER, 120);
+        rounds("!a;=>b;=>c;=>d;a->b;b->c;c->d", D, 4020);
     }
 
     private void wrongTags() {
@@ -193,6 +196,8 @@ final class TagTests {
         proven("a,b->c", C, NEVER, "#a;#c;");
         proven("b->a;a,c->d", D, NEVER, "#c;#d;");
         proven("!a;a,c->b", B, NEVER, "#c;#b;");
+        proven("!a;!b;a=>c;b->c", C, SURE, "!b;!c;");
+        proven("a=>c;b->c", C, NEVER, "#b;#c;");
     }
 
     private void proofsOfLikely() {
@@ -207,6 +212,9 @@ final class TagTests {
         proven("!a;a=>b*1;=>~b", B, LIKELY, "!a;#~b;+a;+b;");
         proven("=>b;c=>~b", B, LIKELY, "#c;#~b;-c;+b;");
         proven("!a;=>~b;=>b;a=>b*1;=>b*2", B, LIKELY, "#~b;+b;");
+        proven("!a;!b;a=>c*1;b=>c*1;=>~c", C, LIKELY, "!a;#~c;+a;+c;");
+        proven("!a;!~b;a=>c?b;=>b", C, LIKELY, "!a;!~b;#b;#~c;+a;-b;+c;");
+        proven("=>a;=>a;=>~a;=>~a;0>2;2>1;1>3;3>0", A, LIKELY, "#~a;+a;");
     }
 
     private void proofsOfUnlikely() {
@@ -218,6 +226,10 @@ final class TagTests {
         proven("!c;!a;a=>b*1;c=>~b;=>b?c;2>1;1>0", B, UNLIKELY, "!c;#b;+c;-b;");
         proven("!c;d=>b*9;=>b;c,~e=>~b;~e=>~e;=>~e*9", B, UNLIKELY, "!c;#b;#d;#e;+c;+~e;-d;-b;");
         proven("d=>b*9;=>b;~>~b;2>0", B, UNLIKELY, "#b;-b;");
+        proven("!c;=>a;c=>~a;e~>a*5", A, UNLIKELY, "!c;#a;+c;-a;");
+        proven("!c;d=>b*9;e=>b*9;=>b;c=>~b", B, UNLIKELY, "!c;#b;#d;#e;+c;-d;-e;-b;");
+        proven("=>a;=>b?a", B, UNLIKELY, "#b;#~a;+a;-b;");
+        proven("=>a;=>b?a;c=>b?a", B, UNLIKELY, "#b;#c;#~a;+a;-c;-b;");
     }
 
     private void prints() {

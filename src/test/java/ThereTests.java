@@ -77,6 +77,8 @@ final class ThereTests {
         check.same("12 facts", x.count(0), Told.bits(0, 10));
         check.same("12 missing", x.count(2), Told.bits(3, 13));
         check.same("12 both likely", x.count(3), Told.bits(0, 10));
+        check.same("12 both likely by a circle, none of them sure",
+            Told.court("=>a;=>a;=>~a;=>~a;0>2;2>1;1>3;3>0").count(3), Told.bits(0, 10));
         check.same("12 none missing", new RuleCourt().count(2), 0);
     }
 
@@ -87,6 +89,7 @@ final class ThereTests {
         // SURE a; NEVER of the 19 others; LIKELY a, b, c; UNLIKELY of the 17 others.
         check.same("12 tags", x.count(6), 1 + 19 + 3 + 17);
         check.same("12 rounds", x.count(7), 4);
+        check.same("12 a round that brings SURE alone", Told.court("!a;=>b;=>c;a->b;b->c").count(7), 3);
         check.same("12 changes", x.count(8), 4);
         x.undo();
         x.undo();

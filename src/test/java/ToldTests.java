@@ -21,6 +21,7 @@ final class ToldTests {
         tests.feed();
         tests.readsWords();
         tests.readsFaultsOfBytes();
+        tests.readsAFullTape();
         tests.readsFaultsOfStatements();
         tests.readsAllOrNothing();
     }
@@ -224,6 +225,21 @@ final class ToldTests {
             check.same("9 fault of " + f[0], Told.read(x, (String) f[0]), -1000 - (Integer) f[1]);
             check.same("9 nothing of " + f[0], x.count(0) + x.count(4) + x.count(8) + x.count(10), 0);
         }
+    }
+
+    private void readsAFullTape() {
+        StringBuilder statements = new StringBuilder("->a;->a;");
+        for (int i = 0; i < 37; i++) {
+            statements.append("!a;");
+        }
+        String most = statements.toString();
+        check.same("9 ends too early at its end", Told.read(new RuleCourt(), most + "~"), -1120);
+        check.same("9 a letter at its end", Told.read(new RuleCourt(), most + "a"), -1120);
+        check.same("9 no letter at its end", Told.read(new RuleCourt(), most + "k"), -1119);
+        check.same("9 full of a body", Told.read(new RuleCourt(), "a,".repeat(60)), -1120);
+        check.same("9 full of literals", Told.read(new RuleCourt(), "a,".repeat(58) + "a=>b"), 1);
+        check.same("9 most statements", Told.read(new RuleCourt(), "!a;".repeat(39) + "!a"), -2003);
+        check.same("9 full of exceptions", Told.read(new RuleCourt(), "a=>b?" + "c,".repeat(56) + "c*9"), 1);
     }
 
     private void readsFaultsOfStatements() {
