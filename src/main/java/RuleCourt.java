@@ -1051,7 +1051,7 @@ public final class RuleCourt {
         }
 
         boolean stepOn(Court now) {
-            if (undone == 0) {
+            if (undone == 0 || done >= CHANGES) {
                 return false;
             }
             done++;
