@@ -1,4 +1,7 @@
-/** Runs every test of the project; ends with 1, if one failed. */
+import java.io.IOException;
+import java.nio.file.Path;
+
+/** Runs every test of the project; ends with 1, if one failed. Told are the class's source and the document. */
 public final class AllTests {
     private static final int RANDOM_RUNS = 400, DENSE_COURTS = 1500;
 
@@ -7,6 +10,7 @@ public final class AllTests {
 
     public static void main(String[] args) throws Exception {
         Check check = new Check("RuleCourt");
+        sentences(check, Path.of(args.length > 1 ? args[1] : "../shared/DOC.md"));
         ToldTests.run(check);
         ThereTests.run(check);
         TagTests.run(check);
@@ -19,5 +23,15 @@ public final class AllTests {
         if (check.failed() > 0) {
             System.exit(1);
         }
+    }
+
+    private static void sentences(Check check, Path document) throws IOException {
+        Sentences sentences = Sentences.of(check, document);
+        TermSentences.run(check, sentences);
+        NeedSentences.run(check, sentences);
+        WordSentences.run(check, sentences);
+        AnswerSentences.run(check, sentences);
+        PromiseSentences.run(check, sentences);
+        System.out.println(sentences.tested() + " sentences of the document tested");
     }
 }

@@ -12,10 +12,14 @@ final class Told {
         return x;
     }
 
-    static int read(RuleCourt x, String words) {
+    static void feed(RuleCourt x, String words) {
         for (int i = 0; i < words.length(); i++) {
             x.feed(words.charAt(i));
         }
+    }
+
+    static int read(RuleCourt x, String words) {
+        feed(x, words);
         return x.reads();
     }
 
