@@ -885,23 +885,24 @@ public final class RuleCourt {
         }
 
         private void wantNeeds(int round, Court court, Rounds rounds) {
-            for (int tag = 0; tag < TAGS; tag++) {
-                int ofRound = wanted[tag] & rounds.broughtBy(tag, round);
-                for (int q = 0; q < LITERALS; q++) {
-                    if (has(ofRound, q)) {
-                        wantNeedsOf(tag, q, court);
-                    }
+            for (int q = 0; q < LITERALS; q++) {
+                if (isWanted(SURE, q, round, rounds)) {
+                    wantForSure(q, court);
+                }
+                if (isWanted(NEVER, q, round, rounds)) {
+                    wantForNever(q, court);
+                }
+                if (isWanted(LIKELY, q, round, rounds)) {
+                    wantForLikely(q, court);
+                }
+                if (isWanted(UNLIKELY, q, round, rounds)) {
+                    wantForUnlikely(q, court);
                 }
             }
         }
 
-        private void wantNeedsOf(int tag, int q, Court court) {
-            switch (tag) {
-                case SURE: wantForSure(q, court); break;
-                case NEVER: wantForNever(q, court); break;
-                case LIKELY: wantForLikely(q, court); break;
-                default: wantForUnlikely(q, court); break;
-            }
+        private boolean isWanted(int tag, int q, int round, Rounds rounds) {
+            return has(wanted[tag], q) && rounds.roundOf(tag, q) == round;
         }
 
         private void wantForSure(int q, Court court) {
@@ -985,9 +986,8 @@ public final class RuleCourt {
 
         private void listRound(int round, Rounds rounds) {
             for (int tag = 0; tag < TAGS; tag++) {
-                int ofRound = wanted[tag] & rounds.broughtBy(tag, round);
                 for (int q = 0; q < LITERALS; q++) {
-                    if (has(ofRound, q) && length < ALL_TAGS) {
+                    if (isWanted(tag, q, round, rounds) && length < ALL_TAGS) {
                         steps[length] = tag * LITERALS + q;
                         length++;
                     }

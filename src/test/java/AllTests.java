@@ -32,6 +32,7 @@ public final class AllTests {
         WordSentences.run(check, sentences);
         AnswerSentences.run(check, sentences);
         PromiseSentences.run(check, sentences);
+        sentences.nothingIsLeftOut();
         System.out.println(sentences.tested() + " sentences of the document tested");
     }
 }

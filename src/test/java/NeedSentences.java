@@ -55,6 +55,7 @@ final class NeedSentences {
 
     private void thoughts(Sentences s) {
         s.test("In thought (nothing is changed):", this::nothingIsChanged);
+        s.test("were it a FACT, q were LIKELY.", this::thoughtsFollowChanges);
         s.test("KEY to q: the least LITERAL, no FACT and not q, by which, were it a FACT, q were LIKELY.", this::key);
         s.test("HINGES of a TAG of a LITERAL: RULES that are ON without which, OFF alone, it came where it doesn't, or"
             + " didn't where it does.", this::hinges);
@@ -135,6 +136,8 @@ final class NeedSentences {
 
     private void likelyByFalls() {
         proven("=>b;c=>~b", B, LIKELY, "#c;#~b;-c;+b;");
+        proven("c=>~b;=>b", B, LIKELY, "#c;#~b;-c;+b;");
+        proven("=>b" + ";=>c".repeat(14) + ";d=>~b", B, LIKELY, "#d;#~b;-d;+b;");
         proven("=>b;c=>~b;d~>~b", B, LIKELY, "#c;#d;#~b;-c;-d;+b;");
         proven("=>b;=>b*9;c=>~b", B, LIKELY, "#~b;+b;");
         proven("=>b*9;c=>~b;d=>d", B, LIKELY, "#~b;+b;");
@@ -168,6 +171,7 @@ final class NeedSentences {
     private void unlikelyBySure() {
         proven("=>b;!~b", B, UNLIKELY, "!~b;#b;-b;");
         proven("!a;a->~b;=>b*9", B, UNLIKELY, "!a;#b;!~b;-b;");
+        proven("!b;!~c;=>c;b=>a?c", A, LIKELY, "!b;!~c;#c;#~a;+b;-c;+a;");
     }
 
     private void unlikelyByForce() {
@@ -199,6 +203,7 @@ final class NeedSentences {
     private void fallByAnException() {
         proven("!a;=>b?a", B, UNLIKELY, "!a;#b;+a;-b;");
         proven("!a;!~j;=>b?c,~j,a", B, UNLIKELY, "!a;#b;+a;-b;");
+        proven("!c;!d;=>b?c;=>b?d", B, UNLIKELY, "!c;!d;#b;+c;+d;-b;");
         proven("!~j;=>b?c,~j", B, UNLIKELY, "!~j;#b;+~j;-b;");
         proven("!a;=>c;c=>d;d=>b?a", B, UNLIKELY, "!a;#b;+a;-b;");
     }
@@ -287,6 +292,12 @@ final class NeedSentences {
         check.same("OFF ones", x.count(1), 0xFFFF);
         x.over(7, 8, 0);
         check.same("parted", x.count(1), 0);
+        x.undo();
+        check.same("undone", x.count(1), 0xFFFF);
+        x.begin();
+        check.same("of none any more", x.count(1), 0);
+        x.rule(1, 0, 0, 0, 0);
+        check.same("of one", x.count(1), 0);
     }
 
     private void missing() {
@@ -326,6 +337,48 @@ final class NeedSentences {
             x.key(q);
             check.same("after thoughts of " + q, Picture.of(x), due);
         }
+    }
+
+    /** What is thought of is the court as it is now, of whatever kind its rules were when it was thought of last. */
+    private void thoughtsFollowChanges() {
+        RuleCourt x = new RuleCourt();
+        x.rule(1, B, 1 << A, 0, 0);
+        check.same("would by a SOFT one", x.would(B, A, 1), Told.bits(NEVER, LIKELY));
+        x.begin();
+        x.rule(2, B, 1 << A, 0, 0);
+        check.same("would by a BAR", x.would(B, A, 1), Told.bits(NEVER, UNLIKELY));
+        x.begin();
+        x.rule(0, B, 1 << A, 0, 0);
+        check.same("would by a STRICT one", x.would(B, A, 1), Told.bits(SURE, LIKELY));
+        check.same("key", x.key(B), A);
+        x.begin();
+        x.rule(1, B, 1 << D, 0, 0);
+        check.same("key with another rule", x.key(B), D);
+        x.begin();
+        x.rule(1, B, 1 << D, 1 << A + OTHER, 0);
+        check.same("key with an exception", x.key(B), D);
+        check.same("would with an exception", x.would(B, A + OTHER, 1), Told.bits(NEVER, UNLIKELY));
+        check.same("least without a FACT", x.least(0, B), NOT);
+        x.fact(D, 1);
+        check.same("least with a FACT", x.least(0, B), 0);
+        check.same("hinges with a FACT", x.hinges(B, LIKELY), Told.bits(0));
+        x.fact(D, 0);
+        check.same("hinges without", x.hinges(B, LIKELY), 0);
+        x.begin();
+        x.rule(1, B, 0, 0, 0);
+        check.same("lots with an exception less", x.lots(B, LIKELY, 12, 1), 12 - timesDrawn(B + OTHER, 12, 1));
+        x.off(0, 1);
+        check.same("lots with one OFF", x.lots(B, LIKELY, 12, 1), timesDrawn(B, 12, 1));
+        x.off(0, 0);
+        check.same("least with one ON", x.least(0, B), 0);
+        x.rule(2, B + OTHER, 0, 0, 3);
+        check.same("least against another", x.least(0, B), 4);
+        check.same("hinges against another", x.hinges(B, LIKELY), Told.bits(1));
+        x.strength(1, 5);
+        check.same("least against a stronger one", x.least(0, B), 6);
+        x.over(0, 1, 1);
+        check.same("least with a PAIR", x.least(0, B), 0);
+        check.same("hinges with a PAIR", x.hinges(B, LIKELY), Told.bits(0));
     }
 
     private void key() {

@@ -138,6 +138,13 @@ final class PromiseSentences {
         x.rule(1, A, 0, 0, 0);
         x.rule(1, B, 0, 0, 0);
         check.same("ON, over none, above none", x.ruleOf(0, 5) + x.ruleOf(0, 6) + x.ruleOf(0, 7), 0);
+        x.off(1, 1);
+        x.off(0, 1);
+        x.over(1, 0, 1);
+        check.same("two, both OFF", x.begin(), 2);
+        x.rule(1, A, 0, 0, 0);
+        x.rule(1, B, 0, 0, 0);
+        check.same("ON, over none", x.ruleOf(0, 5) + x.ruleOf(1, 5) + x.ruleOf(1, 6), 0);
         check.same("of 16", fullOfRules().begin(), 16);
         check.same("the image", x.back(), 2);
         check.same("what it kept", x.ruleOf(0, 5) * 100 + x.ruleOf(0, 4) * 10 + x.ruleOf(0, 6), 192);

@@ -52,6 +52,7 @@ final class TermSentences {
     }
 
     private void tags(Sentences s) {
+        s.test("TAGS of a LITERAL q: 0 SURE, 1 NEVER, 2 LIKELY, 3 UNLIKELY.", this::fourTags);
         s.test("SURE: q is a FACT; or some STRICT RULE FOR q has all of its BODY SURE.", this::sure);
         s.test("NEVER: q is no FACT, and each STRICT RULE FOR q has one of its BODY that is NEVER.", this::never);
         s.test("LIKELY: q is SURE; or: some FORWARD RULE FOR q APPLIES,", this::likelyByOneRule);
@@ -67,6 +68,7 @@ final class TermSentences {
         s.test("They come in ROUNDS 1, 2, ..:", this::firstRound);
         s.test("in each all those (not there yet) whose sentence holds by TAGS of ROUNDS ahead of it alone;",
             this::byRoundsAhead);
+        s.test("holds by TAGS of ROUNDS ahead of it alone", this::anewWithEachChange);
         s.test("until a ROUND brings none.", this::lastRound);
         s.test("(TAGS that never come are neither so nor otherwise.)", this::neverCome);
     }
@@ -318,6 +320,18 @@ final class TermSentences {
         check.same("a STRICT one is above", Told.court("!a;a=>c;c->b*2;=>~b*1").tag(B, LIKELY), 4);
     }
 
+    private void fourTags() {
+        RuleCourt x = Told.court("!a;=>b;c=>c");
+        int[][] due = {{1, 0, 2, 0}, {0, 1, 2, 0}, {0, 1, 0, 0}, {0, 1, 0, 2}};
+        for (int q = A; q <= D; q++) {
+            for (int tag = 0; tag < 4; tag++) {
+                check.same("tag " + tag + " of " + q, x.tag(q, tag), due[q][tag]);
+            }
+        }
+        check.same("no tag -1", x.tag(A, -1), BAD);
+        check.same("no tag 4", x.tag(A, 4), BAD);
+    }
+
     private void sure() {
         rounds("!j", J, 1020);
         rounds("->j", J, 1020);
@@ -416,6 +430,31 @@ final class TermSentences {
         rounds("d->c;c->b;b->a", A, 405);
         rounds("!a;c=>d;b=>c;a=>b", D, 150);
         rounds("=>a?b;c=>b;d=>c", A, 150);
+    }
+
+    /** Nothing of the rounds of another court, or of this one as it was, may count. */
+    private void anewWithEachChange() {
+        RuleCourt x = Told.court("a=>b;=>c?a;a->d");
+        for (int i = 0; i < 3; i++) {
+            check.same("without a", x.state(0) * 100 + x.state(1) * 10 + x.state(2), 212);
+            check.same("without a", x.tag(B, LIKELY) * 100 + x.tag(C, LIKELY) * 10 + x.tag(D, NEVER), 32);
+            x.fact(A, 1);
+            check.same("with a", x.state(0) * 100 + x.state(1) * 10 + x.state(2), 121);
+            check.same("with a", x.tag(B, LIKELY) * 100 + x.tag(C, LIKELY) * 10 + x.tag(D, NEVER), 300);
+            check.same("with a", x.tag(D, SURE), 2);
+            x.would(B, A, 0);
+            check.same("behind a thought", x.state(0) * 100 + x.state(1) * 10 + x.state(2), 121);
+            x.undo();
+            check.same("undone", x.tag(B, LIKELY) * 100 + x.tag(C, LIKELY) * 10 + x.tag(D, NEVER), 32);
+            x.redo();
+            check.same("done again", x.tag(B, LIKELY) * 100 + x.tag(C, LIKELY) * 10 + x.tag(D, NEVER), 300);
+            x.fact(A, 0);
+        }
+        x.fact(A, 1);
+        check.same("ahead of begin", x.tag(D, SURE), 2);
+        x.begin();
+        check.same("behind begin", x.tag(D, SURE) + x.tag(B, LIKELY), 0);
+        check.same("behind begin", x.tagged(NEVER, 1), ALL);
     }
 
     private void lastRound() {

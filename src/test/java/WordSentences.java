@@ -48,7 +48,10 @@ final class WordSentences {
         s.test("(where they are not refused, also if nothing became otherwise):", this::refusedOrVain);
         s.test("the latest 12 can be UNDONE, the latest first,", this::latestTwelve);
         s.test("and DONE AGAIN (as long as none came behind).", this::doneAgain);
+        s.test("each STATEMENT of WORDS did (where they are not refused, also if nothing became otherwise): the latest 12"
+            + " can be UNDONE", this::allOfARule);
         s.test("THE IMAGE keeps FACTS, RULES, PAIRS; laid back, there are no CHANGES.", this::theImage);
+        s.test("THE IMAGE keeps FACTS, RULES, PAIRS;", this::allThatTheImageKeeps);
     }
 
     private void rows(Sentences s) {
@@ -221,7 +224,7 @@ final class WordSentences {
     }
 
     private void endsTooEarly() {
-        String[] early = {"", "!", "!~", "~", "a", "~a", "a,", "a,~", "-", "a=", "a~", "->", "->~", "=>a?", "=>a?~",
+        String[] early = {"", "!", "!~", "~", "a", "~a", "a,", "a,~", "-", "a=", "a~", "~>", "->", "->~", "=>a?", "=>a?~",
             "=>a?b,", "=>a*", "1", "12", "1>", "!a;", "!a;!", "!a;1>"};
         for (String words : early) {
             fault(words, words.length());
@@ -230,6 +233,8 @@ final class WordSentences {
         fault(full, 120);
         fault(full.substring(0, 119) + "~", 119);
         fault("->a;->a;" + "!a;".repeat(37) + "a", 120);
+        fault("->a;->a;" + "!a;".repeat(37) + "~", 120);
+        fault("!a;".repeat(39) + "~>", 119);
     }
 
     private void firstOfFaults() {
@@ -419,6 +424,55 @@ final class WordSentences {
         check.same("none", x.count(9), 0);
         check.same("but it can be undone", x.undo(), 10);
         check.same("and done again", x.redo(), 0);
+    }
+
+    /** Rules of other kinds, one after another in the same place, each undone and done again with all it has. */
+    private void allOfARule() {
+        String[] told = {"->a*0;", "a,~b=>~c?d*9;", "~e~>j?~f,~g*5;", "=>b*1;"};
+        RuleCourt x = new RuleCourt();
+        for (String rule : told) {
+            Told.read(x, rule.substring(0, rule.length() - 1));
+            check.same("told", Told.rules(x), rule);
+            x.undo();
+            check.same("undone", Told.rules(x), "");
+            x.redo();
+            check.same("done again", Told.rules(x), rule);
+            x.undo();
+        }
+        RuleCourt y = Told.court("->a;a,~b=>~c?d*9;~e~>j?~f*5;0>1;!a");
+        for (int i = 0; i < 5; i++) {
+            y.undo();
+        }
+        Told.read(y, "b~>~j?c*4;->d*2");
+        y.undo();
+        y.undo();
+        y.redo();
+        check.same("the later one", Told.rules(y), "b~>~j?c*4;");
+        y.redo();
+        check.same("both later ones", Told.rules(y), "b~>~j?c*4;->d*2;");
+        y.off(0, 1);
+        y.undo();
+        check.same("ON again", y.ruleOf(0, 5), 0);
+        y.redo();
+        check.same("OFF again", y.ruleOf(0, 5), 1);
+    }
+
+    private void allThatTheImageKeeps() {
+        RuleCourt x = Told.court("!a;!~j;->a;a,~b=>~c?d*9;~e~>j?~f*5;0>1;2>1");
+        x.off(1, 1);
+        x.image();
+        x.begin();
+        Told.read(x, "!b;b~>~j?c*4;->d*2;d=>e?f*3;->c;3>0");
+        check.same("another court", x.tag(D, 0), 1);
+        x.off(0, 1);
+        check.same("back", x.back(), 3);
+        check.same("facts", x.count(0), Told.bits(A, J + OTHER));
+        check.same("rules", Told.rules(x), "->a*0;a,~b=>~c?d*9;~e~>j?~f*5;");
+        check.same("pairs", x.ruleOf(0, 6) * 100 + x.ruleOf(1, 6) * 10 + x.ruleOf(2, 6), 202);
+        check.same("OFF", x.ruleOf(0, 5) * 100 + x.ruleOf(1, 5) * 10 + x.ruleOf(2, 5), 10);
+        check.same("tags", x.tag(D, 0) * 10 + x.tag(A, 0), 1);
+        check.same("a new rule is ON, over none", x.rule(1, B, 0, 0, 0), 3);
+        check.same("a new rule is ON, over none", x.ruleOf(3, 5) + x.ruleOf(3, 6), 0);
     }
 
     private void theImage() {
