@@ -25,8 +25,10 @@ final class Told {
 
     static String paper(RuleCourt x) {
         StringBuilder text = new StringBuilder();
-        for (int i = 0; x.paper(i) >= 0; i++) {
-            text.append((char) x.paper(i));
+        int i = 0;
+        for (int letter = x.paper(i); letter >= 0; letter = x.paper(i)) {
+            text.append((char) letter);
+            i++;
         }
         return text.toString();
     }
