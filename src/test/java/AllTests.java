@@ -17,6 +17,7 @@ public final class AllTests {
         ThoughtTests.run(check);
         RowTests.run(check);
         LanguageTests.run(check, args.length > 0 ? args[0] : "src/main/java/RuleCourt.java");
+        ReadmeTests.run(check, Path.of("README.md"));
         RandomRuns.run(check, RANDOM_RUNS);
         DenseCourts.run(check, DENSE_COURTS);
         System.out.println(check.passed() + " passed, " + check.failed() + " failed");
